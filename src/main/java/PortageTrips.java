@@ -334,9 +334,6 @@ public final class PortageTrips {
         if (minute < 0 || minute > LAST_READING) {
             return OUTSIDE;
         }
-        if (readings.count >= MOST_READINGS) {
-            return FULL;
-        }
         return readings.add(t, spot, minute);
     }
 
@@ -758,33 +755,37 @@ public final class PortageTrips {
 
         /** Those of a set at one SPOT that are WELL without him. */
         int wellOnes(int set) {
+            int food = set & foodOnes();
             int fine = 0;
             for (int t = 0; t < things; t++) {
-                if (isIn(set, t) && isWell(t, set)) {
+                int others = set & ~(1 << t);
+                if (isIn(set, t) && isWell(kindRow[t], others, food)) {
                     fine |= 1 << t;
                 }
             }
             return fine;
         }
 
-        private boolean isWell(int t, int set) {
-            if (kindRow[t] == 0) {
-                return true;
+        private static boolean isWell(int kind, int others, int food) {
+            switch (kind) {
+                case FOOD:
+                    return others != 0;
+                case CHILD:
+                    return others != 0 && food == 0;
+                default:
+                    return true;
             }
-            int others = set & ~(1 << t);
-            if (others == 0) {
-                return false;
-            }
-            return kindRow[t] == FOOD || !hasFood(others);
         }
 
-        private boolean hasFood(int set) {
+        /** Those of kind FOOD itself: a CHILD is not counted here. */
+        private int foodOnes() {
+            int food = 0;
             for (int t = 0; t < things; t++) {
-                if (isIn(set, t) && kindRow[t] == FOOD) {
-                    return true;
+                if (kindRow[t] == FOOD) {
+                    food |= 1 << t;
                 }
             }
-            return false;
+            return food;
         }
 
         int load(int set) {
@@ -797,21 +798,24 @@ public final class PortageTrips {
             return sum;
         }
 
-        /** MUD as a TRIP with a load that begins then has it. */
-        int mudUnder(int stage, int begin) {
+        boolean rainsIn(int minute) {
+            return rainFrom != NONE && minute >= rainFrom;
+        }
+
+        /** MUD as a TRIP with a load has it. */
+        int mudUnder(int stage, boolean inRain) {
             if (boarded[stage]) {
                 return 0;
             }
-            boolean rains = rainFrom != NONE && begin >= rainFrom;
-            return rains ? 2 * muds[stage] : muds[stage];
+            return inRain ? 2 * muds[stage] : muds[stage];
         }
 
         /** Whether any THING is carried shows in the load: each has POUNDS. */
-        int minutesOver(int stage, int load, int begin) {
+        int minutesOver(int stage, int load, boolean inRain) {
             if (load == 0) {
                 return lengths[stage];
             }
-            return lengths[stage] + mudUnder(stage, begin) + load / 3;
+            return lengths[stage] + mudUnder(stage, inRain) + load / 3;
         }
 
         static boolean isIn(int set, int t) {
@@ -870,10 +874,10 @@ public final class PortageTrips {
         private void goOne(Portage p, int k) {
             int set = sets[k];
             int stage = Math.min(spot, spots[k]);
-            int begin = begins[k];
-            begins[k + 1] = begin + p.minutesOver(stage, p.load(set), begin);
+            boolean inRain = p.rainsIn(begins[k]);
+            begins[k + 1] = begins[k] + p.minutesOver(stage, p.load(set), inRain);
             if (set != 0) {
-                upper *= 10 - p.mudUnder(stage, begin);
+                upper *= 10 - p.mudUnder(stage, inRain);
                 lower *= 10;
             }
             heaps[spot] &= ~set;
@@ -926,6 +930,7 @@ public final class PortageTrips {
         private final int[] spots = new int[MOST_READINGS];
         private final int[] minutes = new int[MOST_READINGS];
 
+        /** The number of the new one; FULL: there are too many. */
         int add(int t, int spot, int minute) {
             if (count >= MOST_READINGS) {
                 return FULL;
@@ -958,14 +963,16 @@ public final class PortageTrips {
         /** More than any TRIP takes (9 and 8 and 12), so that a bucket holds one minute's states. */
         private static final int BUCKETS = 32;
 
-        private final Portage land = new Portage();
-        private boolean isByTrips;
+        private int things;
         private int last;
         private int goal;
-        private final int[] loads = new int[SETS];
+        private int wetFrom;
+        private final boolean[] mayGo = new boolean[SETS];
         private final boolean[] mayStay = new boolean[SETS];
         /** What is added to a state's number as he takes a set to the next SPOT. */
         private final int[] strides = new int[SETS];
+        /** What a set takes over a STAGE: first those of all STAGES in the dry, then in rain. */
+        private final int[] takes = new int[2 * MOST_STAGES * SETS];
 
         private final int[] reach = new int[STATES];
         private final int[] order = new int[STATES];
@@ -990,23 +997,38 @@ public final class PortageTrips {
         }
 
         private void prepare(Portage p, boolean byTrips) {
-            land.become(p);
-            isByTrips = byTrips;
+            things = p.things;
             last = p.stages;
-            int all = (1 << p.things) - 1;
-            for (int set = 0; set <= all && set < SETS; set++) {
-                loads[set] = p.load(set);
-                mayStay[set] = p.wellOnes(set) == set;
-                strides[set] = 1;
-                for (int t = 0; t < p.things; t++) {
-                    strides[set] += Portage.isIn(set, t) ? 4 << 2 * t : 0;
-                }
+            goal = last;
+            for (int t = 0; t < things; t++) {
+                goal += last << 2 * t + 2;
             }
-            goal = last * strides[all & SETS - 1];
+            wetFrom = p.rainFrom == NONE ? FAR : p.rainFrom;
+            for (int set = 0; set < 1 << things; set++) {
+                prepareSet(p, set, byTrips);
+            }
             settled = 0;
             waiting = 0;
             Arrays.fill(reach, FAR);
             Arrays.fill(firsts, NO_STATE);
+        }
+
+        private void prepareSet(Portage p, int set, boolean byTrips) {
+            int load = p.load(set);
+            mayGo[set] = load <= p.strength;
+            mayStay[set] = p.wellOnes(set) == set;
+            strides[set] = 1;
+            for (int t = 0; t < things; t++) {
+                if (Portage.isIn(set, t)) {
+                    strides[set] += 1 << 2 * t + 2;
+                }
+            }
+            for (int stage = 0; stage < last; stage++) {
+                int dry = stage * SETS + set;
+                int wet = dry + MOST_STAGES * SETS;
+                takes[dry] = byTrips ? 1 : p.minutesOver(stage, load, false);
+                takes[wet] = byTrips ? 1 : p.minutesOver(stage, load, true);
+            }
         }
 
         private void settleAll(int now) {
@@ -1034,7 +1056,7 @@ public final class PortageTrips {
         private int thingsHere(int state) {
             int spot = state & 3;
             int set = 0;
-            for (int t = 0; t < land.things; t++) {
+            for (int t = 0; t < things; t++) {
                 if ((state >> 2 * t + 2 & 3) == spot) {
                     set |= 1 << t;
                 }
@@ -1054,18 +1076,16 @@ public final class PortageTrips {
             if (spot < 0 || spot > last || (set & ~here) != 0) {
                 return NO_STATE;
             }
-            if (loads[set] > land.strength || !mayStay[here & ~set]) {
+            if (!mayGo[set] || !mayStay[here & ~set]) {
                 return NO_STATE;
             }
             return move < SETS ? state - strides[set] : state + strides[set];
         }
 
         private int minutesOf(int state, int move, int begin) {
-            if (isByTrips) {
-                return 1;
-            }
             int stage = Math.min(state & 3, spotBehind(state, move));
-            return land.minutesOver(stage, loads[move % SETS], begin);
+            int weather = begin >= wetFrom ? MOST_STAGES * SETS : 0;
+            return takes[weather + stage * SETS + move % SETS];
         }
 
         private void offer(int state, int minutes) {
