@@ -267,8 +267,9 @@ public final class PromiseTest {
         due("a bit of no THING", x.well(17), OUTSIDE);
         due("a bit of no THING", x.well(-1), OUTSIDE);
         due("a bit of no THING", x.well(SMALL), OUTSIDE);
-        x = over("g6;52,f1,c1");
+        x = over("g6;52,f1,c1,f1");
         due("FOOD by a CHILD", x.well(3), 1);
+        due("a CHILD by FOOD", x.well(6), 4);
         x = over("g6;52,f1,f1");
         due("FOOD by FOOD", x.well(3), 3);
         due("a bit of no THING", x.well(4), OUTSIDE);
@@ -475,7 +476,8 @@ public final class PromiseTest {
         row(over("g3;10,t3,t3"), 1, 1, 0, 0, 1, 2);
         row(over("g3;10,t3,t3,t3"), 1, 1, 0, 0, 1, 2, 0, 0, 1, 4);
         row(over("g6;10,f1,f2,t3,f4"), 1, 6, 0, 0, 1, 9);
-        // 5, 5 and 2 POUNDS take 7 MINUTES, too, but five TRIPS.
+        // 5, 5 and 2 POUNDS take 7 MINUTES, too, but five TRIPS, though the first set is less.
+        row(over("g6;10,t1,t2,t4,t5"), 1, 6, 0, 0, 1, 9);
         row(over("g6;10,c2,t4,t5,t1"), 1, 3, 0, 0, 1, 12);
         x = over(FOUR);
         x.bears(9);
@@ -497,6 +499,8 @@ public final class PromiseTest {
         due("none", x.fewest(), NONE);
         x.bears(9);
         due("six", x.fewest(), 6);
+        x.rain(0);
+        due("six in the rain, too", x.fewest(), 6);
         x.bears(36);
         due("two", x.fewest(), 2);
         take(x, "g1;10;10;10,t1,t1");
