@@ -679,7 +679,9 @@ public final class PortageTrips {
             rainFrom = NONE;
             stages = 0;
             things = 0;
-            Arrays.fill(boarded, false);
+            for (int k = 0; k < MOST_STAGES; k++) {
+                boarded[k] = false;
+            }
         }
 
         /** What is due behind a code; BROKEN: with it no TEXT goes on. */
