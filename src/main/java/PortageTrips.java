@@ -961,7 +961,9 @@ public final class PortageTrips {
      */
     private static final class Search {
         private static final int STATES = 1024, SETS = 16, MOVES = 2 * SETS;
-        private static final int NO_STATE = -1, NO_MOVE = -1, FAR = Integer.MAX_VALUE;
+        private static final int NO_STATE = -1, NO_MOVE = -1;
+        /** Beyond what any row of TRIPS can take: 1024 states, below 32 MINUTES a TRIP. */
+        private static final int FAR = 1000000;
         /** More than any TRIP takes (9 and 8 and 12), so that a bucket holds one minute's states. */
         private static final int BUCKETS = 32;
 
