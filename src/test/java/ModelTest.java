@@ -13,9 +13,9 @@ import java.util.regex.Matcher;
 import java.util.regex.Pattern;
 
 /**
- * Long runs of calls drawn by a fixed seed, answered by the class and by a model that was written
- * from the document alone, in another way: real rows and casts, a pattern for the TEXT, a
- * time-line of minutes, whole rows of TRIPS in a queue.
+ * Long runs of calls drawn by a fixed seed, answered by the class and by a model that works in
+ * another way: real rows and casts, a pattern for the TEXT, a time-line of minutes, whole rows of
+ * TRIPS in a queue. Both have one author, so a misreading of the document may be in both.
  */
 public final class ModelTest {
     private static final int UNKNOWN = -1, OUTSIDE = -2, STATE = -3, FULL = -4, NONE = -9;
