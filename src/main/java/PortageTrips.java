@@ -1087,7 +1087,7 @@ public final class PortageTrips {
         }
 
         private int minutesOf(int state, int move, int begin) {
-            int stage = Math.min(state & 3, spotBehind(state, move));
+            int stage = (state & 3) - (move < SETS ? 1 : 0);
             int weather = begin >= wetFrom ? MOST_STAGES * SETS : 0;
             return takes[weather + stage * SETS + move % SETS];
         }

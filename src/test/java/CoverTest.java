@@ -71,7 +71,8 @@ public final class CoverTest extends Trial {
     private static void quote(Method test, int promise, String words) {
         boolean isPromise = promise > TERMS && promise <= PROMISES;
         if (!(isPromise && blot(promise, words)) && !blot(TERMS, words)) {
-            miss(test.getName() + ": neither " + nameOf(promise) + " nor the terms say just once '" + words + "'");
+            miss(test.getName() + ": neither " + nameOf(promise) + " nor the terms say just once '"
+                + words + "'");
         }
     }
 

@@ -380,7 +380,8 @@ public final class PortageTest extends Trial {
 
     // ---------------------------------------------------------------- promise 8: well
 
-    @Sentence(promise = 8, says = "THINGS that are WELL without him, if just those of a set were at one SPOT, as a set")
+    @Sentence(promise = 8,
+        says = "THINGS that are WELL without him, if just those of a set were at one SPOT, as a set")
     static void wellOfEachSet() {
         PortageTrips x = over(FOUR);
         int[] well = {0, 1, 0, 3, 0, 5, 2, 3, 8, 9, 10, 11, 12, 13, 10, 11};
@@ -490,7 +491,8 @@ public final class PortageTest extends Trial {
         dueText("g6;52,t33", -108);
     }
 
-    @Sentence(promise = 2, says = "FIRST FAULT: the place (from 0 on) of the first code with which no TEXT goes on")
+    @Sentence(promise = 2,
+        says = "FIRST FAULT: the place (from 0 on) of the first code with which no TEXT goes on")
     static void firstFaultIsTheFirstPlace() {
         dueText("!6;52,t3", -100);
         dueText("g!;52,t3", -101);
@@ -505,7 +507,8 @@ public final class PortageTest extends Trial {
         dueText("g6!52!t3!", -102);
     }
 
-    @Sentence(promise = 2, says = "FIRST FAULT: the place (from 0 on) of the first code with which no TEXT goes on")
+    @Sentence(promise = 2,
+        says = "FIRST FAULT: the place (from 0 on) of the first code with which no TEXT goes on")
     static void firstFaultCountsFromTheTextOn() {
         PortageTrips x = new PortageTrips();
         write(x, 0, BYTES, codes("......g6;52,t0"));
@@ -547,11 +550,12 @@ public final class PortageTest extends Trial {
         due("MUD", x.ofStage(1, 1), 4);
         due("POUNDS", x.ofThing(2, 1), 9);
         for (int place = 0; place < text.length; place++) {
-            for (int other : new int[] {text[place] + 256, text[place] + 65536, -text[place], SMALL + text[place]}) {
+            int code = text[place];
+            for (int other : new int[] {code + 256, code + 65536, -code, SMALL + code}) {
                 x.put(0, place, other);
                 due("code " + other + " at " + place, x.portage(0, INTS, 0, text.length), -100 - place);
             }
-            x.put(0, place, text[place]);
+            x.put(0, place, code);
         }
     }
 
@@ -578,8 +582,9 @@ public final class PortageTest extends Trial {
 
     // ---------------------------------------------------------------- terms of part 1: all anew
 
+    /** Whatever can be set is set, and whatever tries a change has been asked. */
     private static PortageTrips inRainOnBoards() {
-        PortageTrips x = over(TWO);
+        PortageTrips x = told(TWO, 1, 3);
         x.rain(3);
         x.boards(0, true);
         x.boards(1, true);
@@ -587,6 +592,10 @@ public final class PortageTest extends Trial {
         x.reading(1, 2, 50);
         x.soonest();
         x.fewest();
+        x.cost(0);
+        x.help(1);
+        x.kinds(0, 1, INTS, 0, 1);
+        x.since(1, INTS, 0, 1);
         return x;
     }
 

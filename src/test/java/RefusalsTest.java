@@ -320,7 +320,8 @@ public final class RefusalsTest extends Trial {
 
     // ---------------------------------------------------------------- FAULTS: what they are
 
-    @Sentence(promise = {2, 9, 10, 11, 19, 20, 23, 24, 25}, says = "FAULTS are the machine's: 1 NULL (there is nothing)")
+    @Sentence(promise = {2, 9, 10, 11, 19, 20, 23, 24, 25},
+        says = "FAULTS are the machine's: 1 NULL (there is nothing)")
     static void nullIsOne() {
         PortageTrips x = rich();
         due("put", x.put(3, 0, 0), -11);
@@ -341,7 +342,8 @@ public final class RefusalsTest extends Trial {
     }
 
     @Sentence(promise = {2, 9, 10, 11, 19, 20, 25},
-        says = "3 INDEX (of cells from i on also where i is not 0 .. how many there are, if none of them is taken, too)")
+        says = "3 INDEX (of cells from i on also where i is not 0 .. how many there are, "
+            + "if none of them is taken, too)")
     static void indexThoughNoneIsTaken() {
         for (int i : new int[] {-1, 7, 8, 60, BIG, SMALL}) {
             PortageTrips x = rich();

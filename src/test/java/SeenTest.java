@@ -63,7 +63,8 @@ public final class SeenTest extends Trial {
 
     // ---------------------------------------------------------------- promise 18: back
 
-    @Sentence(promise = 18, says = "The last k READINGS (0 .. as many as there are) are taken back: how many are left")
+    @Sentence(promise = 18,
+        says = "The last k READINGS (0 .. as many as there are) are taken back: how many are left")
     static void backTakesTheLast() {
         // With THING 0 at SPOT 1 from MINUTE 8 on, the first READING is so, the others are not.
         PortageTrips x = told(TWO, 1, 3);
@@ -265,6 +266,20 @@ public final class SeenTest extends Trial {
         due("no READINGS, but they can't be", since(x, 1), 0);
     }
 
+    @Sentence(promise = 19, says = "so that they can be, and all READINGS are so, as a set")
+    static void sinceByAllElseAsItIs() {
+        PortageTrips x = told(TWO, 1, 3);
+        x.bears(4);
+        due("he BEARS too little", since(x, 1), 0);
+        x.bears(5);
+        due("he BEARS just enough", since(x, 1), ALL);
+        x.boards(0, true);
+        x.reading(0, 1, 6);
+        due("over BOARDS it is there in 6, rain or not", since(x, 1), ALL);
+        x.boards(0, false);
+        due("without BOARDS it is not", since(x, 1), 0);
+    }
+
     // ---------------------------------------------------------------- terms of part 4: KINDS
 
     @Sentence(promise = 20, says = "KINDS of a THING: those (0 .. 2), in place of its own")
@@ -294,6 +309,11 @@ public final class SeenTest extends Trial {
         due("in the rain not yet in 7", kinds(x, 1, 1), 0);
         x.boards(0, true);
         due("over BOARDS in 5, so in 7", kinds(x, 1, 1), 5);
+        plan(x, 1, 7);
+        x.bears(3);
+        due("he BEARS just enough", kinds(x, 1, 1), 7);
+        x.bears(2);
+        due("he BEARS too little", kinds(x, 1, 1), 0);
     }
 
     public static void main(String[] args) throws IllegalAccessException {

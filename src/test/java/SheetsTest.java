@@ -223,7 +223,8 @@ public final class SheetsTest extends Trial {
 
     // ---------------------------------------------------------------- promise 25: copy
 
-    @Sentence(promise = 25, says = "n cells of a SHEET from i on go to another one (perhaps the same) from j on")
+    @Sentence(promise = 25,
+        says = "n cells of a SHEET from i on go to another one (perhaps the same) from j on")
     static void copyToAnother() {
         PortageTrips x = new PortageTrips();
         for (int lane = 0; lane < 3; lane++) {
@@ -648,7 +649,8 @@ public final class SheetsTest extends Trial {
             write(x, lane, lane, values);
         }
         dueCells("bytes", x, 0, BYTES, 127, -128, -1, 0, -128, 127, -1, 0, -1, 0, 0, -1, -1, 0);
-        dueCells("shorts", x, 1, SHORTS, 127, 128, 255, 256, -128, -129, 32767, -32768, -1, 0, -32768, 32767, -1, 0);
+        dueCells("shorts", x, 1, SHORTS, 127, 128, 255, 256, -128, -129, 32767, -32768, -1, 0, -32768, 32767,
+            -1, 0);
         dueCells("ints", x, 2, INTS, values);
         int[] text = codes("g6;52,t3");
         for (int i = 0; i < text.length; i++) {
@@ -674,7 +676,8 @@ public final class SheetsTest extends Trial {
         }
     }
 
-    @Sentence(promise = {26, 27, 29}, says = "(an int that wraps, 0 at first, becomes 31 times it and the number)")
+    @Sentence(promise = {26, 27, 29},
+        says = "(an int that wraps, 0 at first, becomes 31 times it and the number)")
     static void traceWraps() {
         PortageTrips x = over("g6;52,t9,f1,c5");
         due("at first", x.trace(), 0);

@@ -217,7 +217,8 @@ public final class SoonestTest extends Trial {
 
     // ---------------------------------------------------------------- terms of part 3
 
-    @Sentence(promise = {12, 15, 16}, says = "SOONEST: the least MINUTES by which he and all THINGS are at the last SPOT")
+    @Sentence(promise = {12, 15, 16},
+        says = "SOONEST: the least MINUTES by which he and all THINGS are at the last SPOT")
     static void soonestIsTheLeast() {
         // Of 1, 2 and 4 POUNDS 5 and 2 take a MINUTE less than 4 and 3.
         due("5 and 2 POUNDS", over("g5;10,t1,t2,t4").soonest(), 4);
@@ -271,8 +272,10 @@ public final class SoonestTest extends Trial {
         PortageTrips x = over(FOUR);
         x.bears(9);
         due("three a STAGE", x.fewest(), 6);
-        x.rain(0);
-        due("RAIN does not matter", x.fewest(), 6);
+        for (int rain : new int[] {0, 3, 99}) {
+            x.rain(rain);
+            due("RAIN does not matter", x.fewest(), 6);
+        }
         x.boards(0, true);
         due("nor do BOARDS", x.fewest(), 6);
         x.bears(13);
@@ -288,8 +291,10 @@ public final class SoonestTest extends Trial {
         // Without FOOD: 7 and 5 POUNDS, 9 and 5 and 8, then 6 and 3 and 5 MINUTES.
         due("FOOD: 38 less 36", x.cost(1), 1002);
         x = over(TWO);
+        x.rain(0);
+        due("in the rain: 16 less 14", x.cost(0), 1002);
         x.rain(8);
-        due("in the rain: 14 less 11", x.cost(0), 1003);
+        due("in the rain of one TRIP: 14 less 11", x.cost(0), 1003);
         x.boards(1, true);
         due("over BOARDS: 12 less 10", x.cost(0), 1002);
         due("SOONEST as ever", x.soonest(), 12);
@@ -304,6 +309,11 @@ public final class SoonestTest extends Trial {
             due(v + " more", x.help(v), helps[v]);
         }
         due("SOONEST as ever", x.soonest(), 8);
+        x = over("g5;52,t3,t3");
+        x.rain(0);
+        due("in the rain: 25 less 11", x.help(1), 14);
+        x.boards(0, true);
+        due("over BOARDS: 17 less 7", x.help(1), 10);
     }
 
     @Sentence(promise = {7, 12, 15, 16}, says = "BOARDS may lie over a STAGE")

@@ -554,7 +554,8 @@ public final class TripsTest extends Trial {
     }
 
     @Sentence(promise = {10, 19, 20},
-        says = "A TRIP that begins in MINUTE b and TAKES so many is on the way as MINUTES b to the one ahead of b and so many end")
+        says = "A TRIP that begins in MINUTE b and TAKES so many is on the way "
+            + "as MINUTES b to the one ahead of b and so many end")
     static void onTheWayFromToWhen() {
         // The third TRIP begins in 10 and takes 8.
         PortageTrips x = told("g9;52;10,t3,t3", 1, 0, 0, 0, 1, 1, 0, 0);
