@@ -220,7 +220,7 @@ abstract class Trial {
                 failed++;
             }
         }
-        System.out.println(tests.getName() + ": " + passed + " sentences hold, " + failed + " don't");
+        System.out.println(tests.getName() + ": " + passed + " tests of sentences hold, " + failed + " don't");
         if (failed > 0 || passed == 0) {
             System.exit(1);
         }
